@@ -476,7 +476,6 @@ public final class Rotationary {
             substitutions = 0;
             challenges = CHALLENGES_OF_A_SET;
             hasExchanged = false;
-            goneForLibero = NONE;
             for (int shirt = 1; shirt <= SHIRTS; shirt++) {
                 putIn(pairs, shirt, UNPAIRED);
             }
@@ -690,7 +689,6 @@ public final class Rotationary {
         private void clear() {
             court.first.clearOrder();
             court.second.clearOrder();
-            court.startSet(NONE);
             for (int rotations = 0; rotations < PLACES; rotations++) {
                 putIn(lostByFirst, rotations, 0);
                 putIn(lostBySecond, rotations, 0);

@@ -223,6 +223,17 @@ public final class BetweenTest {
         Due.wins(last, 0);
         Due.beginWithLiberos(last, 1);
         due.is("exchange in a new set", last.exchange(1, 11), true);
+
+        Rotationary found = Due.set();
+        Due.wins(found, 1, 24);
+        Due.wins(found, 0, 2);
+        found.serve(3);
+        found.fall(1);
+        due.is("exchange ahead of find", found.exchange(0, 1) && found.exchange(1, 11), true);
+        due.is("find ends the set", found.find() == 1 && found.about(0) == 0, true);
+        Due.beginWithLiberos(found, 0);
+        due.is("exchange in the next set, without a rally between", found.exchange(0, 1), true);
+        due.is("exchange of the other team likewise", found.exchange(1, 11), true);
     }
 
     private static void liberoRotates() {
@@ -316,6 +327,10 @@ public final class BetweenTest {
         Due.beginWithLiberos(x, 0);
         due.is("no substitutions in a new set", x.of(0, 0), 0);
         due.is("no pairs in a new set", x.substitute(0, 4, 8), 1);
+        due.is("a pair with the last shirt", x.substitute(0, 3, 20), 2);
+        Due.wins(x, 0, 25);
+        Due.beginWithLiberos(x, 0);
+        due.is("the last shirt in a new set", x.substitute(0, 1, 20), 1);
 
         Rotationary y = Due.set();
         y.substitute(0, 6, 8);
@@ -377,6 +392,12 @@ public final class BetweenTest {
         x.serve(1);
         x.fall(1);
         due.is("the net touch of an earlier rally", x.challenge(1), false);
+        x.serve(1);
+        x.net(1, false);
+        x.fall(1);
+        x.serve(1);
+        x.fall(0);
+        due.is("the net touch of the other team in an earlier rally", x.challenge(0), false);
     }
 
     private static void challengeThatTurns() {
@@ -501,9 +522,14 @@ public final class BetweenTest {
         due.is("substitutions are back", x.of(0, 0), 1);
         due.is("pairs are back", x.substitute(0, 8, 1), 2);
         due.order("the libero is back, and rotates", x, 1, 13, 14, 15, 16, 17, 12);
-        Due.wins(x, 1, 2);
+        Due.wins(x, 0);
+        Due.wins(x, 1);
+        due.order("the libero is still known", x, 1, 14, 15, 16, 11, 12, 13);
+        Due.wins(x, 1);
+        due.is("26 to 25", x.about(0), 1);
+        Due.wins(x, 1);
         due.is("the set is over then", x.sets(1), 1);
-        due.score("the set is over then", x, 24, 26);
+        due.score("the set is over then", x, 25, 27);
 
         Rotationary vain = new Rotationary();
         Due.winsSet(vain, 0);

@@ -64,6 +64,17 @@ public final class QuestionsTest {
         due.score("the last set, as orders are told", x, 3, 25);
         x.begin(0);
         due.score("the next set", x, 0, 0);
+
+        Rotationary y = Due.set();
+        Due.wins(y, 0, 24);
+        y.serve(2);
+        y.fall(1);
+        due.score("a set that is won out of order", y, 25, 0);
+        Due.beginWithLiberos(y, 0);
+        y.serve(2);
+        y.fall(1);
+        y.find();
+        due.score("taken back in the next set", y, 0, 1);
     }
 
     private static void setsBySets() {
