@@ -23,6 +23,7 @@ public final class LanguageTest {
                 }
             }
             indexIsGuarded(due, i + 1, code);
+            nothingIsMadeByCalls(due, i + 1, code);
         }
         methodsAreShort(due, lines);
         Class<?>[] inside = Rotationary.class.getDeclaredClasses();
@@ -40,6 +41,12 @@ public final class LanguageTest {
             boolean isNew = matcher.group(1).equals("int") && code.contains("new int[");
             due.is("an index out of valueIn and putIn in line " + line, isNew || matcher.group().equals("row[index]"), true);
         }
+    }
+
+    /** All calls of a run live in one room: what a match needs is made with it, and calls make nothing but exceptions. */
+    private static void nothingIsMadeByCalls(Due due, int line, String code) {
+        boolean isField = code.matches("\\s+private final .* = new .*;");
+        due.is("something is made in line " + line, !code.contains("new ") || isField || code.contains("throw new "), true);
     }
 
     private static void methodsAreShort(Due due, List<String> lines) {
